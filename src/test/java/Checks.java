@@ -36,6 +36,13 @@ final class Checks {
         }
     }
 
+    void dueText(String call, String got, String want) {
+        looked++;
+        if (!got.equals(want)) {
+            tell(call + " answered '" + got + "', due is '" + want + "'");
+        }
+    }
+
     void dueThrow(String call, Class<? extends RuntimeException> want, Call made) {
         looked++;
         Class<?> got = thrownBy(made);
