@@ -239,7 +239,7 @@ public final class Bitmapstore {
         for (int place = 0; place < now.conditionCount; place++) {
             for (int condition = 0; condition < now.conditionCount; condition++) {
                 if (placeOf(condition) == place) {
-                    tellCondition(condition);
+                    tellCondition(now.conditions[condition]);
                     scratch.keep(told);
                 }
             }
@@ -512,18 +512,19 @@ public final class Bitmapstore {
             throws IndexOutOfBoundsException, IllegalArgumentException {
         needCondition(condition);
         needArgument(what, WHAT_COLUMN, WHAT_PLACE);
+        Condition asked = now.conditions[condition];
         switch (what) {
             case WHAT_COLUMN:
-                return now.conditions[condition].column;
+                return asked.column;
             case WHAT_TEST:
-                return now.conditions[condition].test;
+                return asked.test;
             case WHAT_NUMBER:
-                return now.conditions[condition].number;
+                return asked.number;
             case WHAT_ROWS:
-                tellCondition(condition);
+                tellCondition(asked);
                 return told.size();
             case WHAT_BEST_WAY:
-                return bestWayOf(condition);
+                return columns[asked.column].bestWayFor(asked.test, asked.number);
             default:
                 countSatisfying();
                 return placeOf(condition);
@@ -534,13 +535,17 @@ public final class Bitmapstore {
             throws IndexOutOfBoundsException, IllegalArgumentException {
         needCondition(condition);
         needArgument(way, VALUES, DIGITS);
-        return costOf(condition, way);
+        Condition asked = now.conditions[condition];
+        return columns[asked.column].costOf(asked.test, asked.number, way);
     }
 
     public int planCost() {
         int total = 0;
         for (int condition = 0; condition < now.conditionCount; condition++) {
-            total += costOf(condition, bestWayOf(condition));
+            Condition asked = now.conditions[condition];
+            Column column = columns[asked.column];
+            int way = column.bestWayFor(asked.test, asked.number);
+            total += column.costOf(asked.test, asked.number, way);
         }
         return now.conditionCount == 0 ? 0 : total + now.conditionCount - 1;
     }
@@ -690,31 +695,16 @@ public final class Bitmapstore {
 
     // ---- the plan
 
-    private int costOf(int condition, int way) {
-        Condition asked = now.conditions[condition];
-        return columns[asked.column].costOf(asked.test, asked.number, way);
-    }
-
-    private int bestWayOf(int condition) {
-        int best = VALUES;
-        for (int way = BOUNDS; way <= DIGITS; way++) {
-            if (costOf(condition, way) < costOf(condition, best)) {
-                best = way;
-            }
-        }
-        return best;
-    }
-
     /** Leaves the rows that satisfy the condition in told. */
-    private void tellCondition(int condition) {
-        Condition asked = now.conditions[condition];
-        columns[asked.column].tell(asked.test, asked.number, bestWayOf(condition),
-                now.present, told);
+    private void tellCondition(Condition asked) {
+        Column column = columns[asked.column];
+        int way = column.bestWayFor(asked.test, asked.number);
+        column.tell(asked.test, asked.number, way, now.present, told);
     }
 
     private void countSatisfying() {
         for (int condition = 0; condition < now.conditionCount; condition++) {
-            tellCondition(condition);
+            tellCondition(now.conditions[condition]);
             satisfying[condition] = told.size();
         }
     }
@@ -994,7 +984,8 @@ public final class Bitmapstore {
         }
 
         RowSet ofValue(int value) {
-            return isValue(value) ? ofValues[value - LEAST_VALUE] : nothing;
+            boolean isThere = value >= LEAST_VALUE && value <= GREATEST_VALUE;
+            return isThere ? ofValues[value - LEAST_VALUE] : nothing;
         }
 
         int valuesIn(int from, int to) {
@@ -1229,32 +1220,48 @@ public final class Bitmapstore {
             if (test == WITHOUT_VALUE || test == WITH_VALUE) {
                 return 1;
             }
-            if (way == VALUES) {
-                return costByValues(test, number);
+            if (way == DIGITS) {
+                return costByDigits(test);
             }
-            return way == BOUNDS ? costByBounds(test, number) : costByDigits(test);
+            int same = valuesIn(number, number);
+            if (way == BOUNDS) {
+                return costByBounds(test, valuesIn(boundAt(boundUnder(number)), number - 1), same);
+            }
+            int lesser = valuesIn(LEAST_VALUE, number - 1);
+            return costByValues(test, lesser, same, valuesIn(number + 1, GREATEST_VALUE));
         }
 
-        private int costByValues(int test, int number) {
+        int bestWayFor(int test, int number) {
+            int best = VALUES;
+            int leastCost = costOf(test, number, VALUES);
+            for (int way = BOUNDS; way <= DIGITS; way++) {
+                int wayCost = costOf(test, number, way);
+                if (wayCost < leastCost) {
+                    best = way;
+                    leastCost = wayCost;
+                }
+            }
+            return best;
+        }
+
+        private static int costByValues(int test, int lesser, int same, int greater) {
             switch (test) {
                 case LESS:
-                    return valuesIn(LEAST_VALUE, number - 1);
+                    return lesser;
                 case LESS_OR_EQUAL:
-                    return valuesIn(LEAST_VALUE, number);
+                    return lesser + same;
                 case EQUAL:
-                    return valuesIn(number, number);
+                    return same;
                 case GREATER_OR_EQUAL:
-                    return valuesIn(number, GREATEST_VALUE);
+                    return same + greater;
                 case GREATER:
-                    return valuesIn(number + 1, GREATEST_VALUE);
+                    return greater;
                 default:
-                    return valuesIn(LEAST_VALUE, number - 1) + valuesIn(number + 1, GREATEST_VALUE);
+                    return lesser + greater;
             }
         }
 
-        private int costByBounds(int test, int number) {
-            int fromBound = valuesIn(boundAt(boundUnder(number)), number - 1);
-            int same = valuesIn(number, number);
+        private static int costByBounds(int test, int fromBound, int same) {
             switch (test) {
                 case LESS:
                     return 1 + fromBound;
@@ -1390,7 +1397,7 @@ public final class Bitmapstore {
         private final int[] current = new int[COLUMN_LIMIT];
         private final int[] counting = new int[COLUMN_LIMIT];
         private final RowSet[] parts = RowSet.several(COLUMN_LIMIT + 1);
-        private final RowSet[] rests = RowSet.several(COLUMN_LIMIT + 1);
+        private final RowSet[] rests = RowSet.several(COLUMN_LIMIT);
         private int countingMany;
         private int many;
 
@@ -1411,34 +1418,35 @@ public final class Bitmapstore {
             }
             parts[0].setTo(rows);
             if (!rows.isEmpty()) {
-                split(columns, 0);
+                split(this, columns, 0);
             }
         }
 
         /** The groups within the part of a level, by ascending values, then the part itself. */
-        private void split(Column[] columns, int level) {
+        private static void split(Groups groups, Column[] columns, int level) {
             if (level < 0 || level > COLUMN_LIMIT) {
                 return;
             }
-            if (level < countingMany) {
-                int column = counting[level];
-                RowSet rest = rests[level];
-                RowSet part = parts[level + 1];
-                rest.setTo(parts[level]);
+            if (level < groups.countingMany && level < COLUMN_LIMIT) {
+                int number = groups.counting[level];
+                Column column = columns[number];
+                RowSet rest = groups.rests[level];
+                RowSet part = groups.parts[level + 1];
+                rest.setTo(groups.parts[level]);
                 for (int i = 0; i < ROW_LIMIT && !rest.isEmpty(); i++) {
-                    int value = columns[column].leastOver(rest, 0);
+                    int value = column.leastOver(rest, 0);
                     part.setTo(rest);
                     // without a value only the rows that have none are left
                     if (value != NULL) {
-                        part.keep(columns[column].ofValue(value));
+                        part.keep(column.ofValue(value));
                     }
-                    current[column] = value;
-                    split(columns, level + 1);
+                    groups.current[number] = value;
+                    split(groups, columns, level + 1);
                     rest.leaveOut(part);
                 }
-                current[column] = ALL;
+                groups.current[number] = ALL;
             }
-            addGroup(parts[level].size());
+            groups.addGroup(groups.parts[level].size());
         }
 
         private void addGroup(int rows) {

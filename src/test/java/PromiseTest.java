@@ -465,7 +465,14 @@ public final class PromiseTest {
         dueText("less or equal", filter(0), "0 1");
         due("greater or equal", x.compare(0, 0, 3, 3), 3);
         due("greater", x.compare(0, 0, 4, 3), 2);
-        due("below 0 on both sides", x.compare(0, 2, 4, 1), 1);
+        x.setValue(2, 3, 4);
+        due("by the last digit", x.compare(0, 0, 4, 3), 2);
+        x.setValue(2, 3, 6);
+        due("by the last digits", x.compare(0, 0, 0, 3), 2);
+        x.setValue(2, 1, -2);
+        x.setValue(2, 2, -1);
+        due("by the last digit below 0", x.compare(0, 2, 4, 1), 1);
+        due("by the last digit below 0, less", x.compare(0, 1, 0, 2), 1);
         due("the same column, equal", x.compare(0, 0, 2, 0), 5);
         due("the same column, unlike", x.compare(0, 0, 5, 0), 0);
         index("filter 8", () -> x.compare(8, 0, 0, 0));
@@ -808,7 +815,8 @@ public final class PromiseTest {
             due("change " + i + " can be undone", x.undo(), 7);
             dueText("change " + i + " is undone", all(), ahead);
             due("errors", x.errors(), 0);
-            x.copyOf(7, 7);
+            // if a change was not remembered, undo would take this one back in its place
+            x.put(7, 4, i % 2 == 0);
         }
         x.rollup(0, 1);
         String group = group(0);
@@ -1012,6 +1020,10 @@ public final class PromiseTest {
         due("down from 100", x.next(0, 100, false), 64);
         due("down from 119", x.next(0, 119, false), 110);
         due("down from far above", x.next(0, MAX, false), 110);
+        x.put(0, 119, true);
+        due("down from 119, which is in", x.next(0, 119, false), 119);
+        due("down from 120", x.next(0, 120, false), 119);
+        due("up from 119, which is in", x.next(0, 119, true), 119);
         due("of no rows, up", x.next(1, 0, true), NONE);
         due("of no rows, down", x.next(1, 119, false), NONE);
         index("filter 8", () -> x.next(8, 0, true));
@@ -1278,6 +1290,11 @@ public final class PromiseTest {
         packedOf(2, 64, 65);
         due("from 64 on", x.runAt(2, 0, false), 64);
         due("from 64 on", x.runAt(2, 0, true), 2);
+        packedOf(2, 63, 64);
+        due("63 and 64", x.runAt(2, 0, true), 2);
+        packedOf(2, 63, 65);
+        due("63 without 64", x.runAt(2, 0, true), 1);
+        due("65 without 64", x.runAt(2, 1, false), 65);
         index("run 4", () -> x.runAt(0, 4, false));
         index("run -1", () -> x.runAt(0, -1, true));
         index("run 0 of none", () -> x.runAt(3, 0, true));
@@ -1332,6 +1349,11 @@ public final class PromiseTest {
             }
         }
         x.dropCondition(3);
+        x.undo();
+        x.dropCondition(0);
+        due("the place of the first one", x.conditionAt(0, 5), 1);
+        due("the place of the second one", x.conditionAt(1, 5), 0);
+        due("the place of the third one", x.conditionAt(2, 5), 2);
         index("condition 3", () -> x.conditionAt(3, 0));
         index("condition -1", () -> x.conditionAt(-1, 0));
         argument("what 6", () -> x.conditionAt(0, 6));
