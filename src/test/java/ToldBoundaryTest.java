@@ -1,6 +1,7 @@
 /**
  * The boundary cases of what is told from sets: the order of section 3, the groups and joins of
- * section 5, and the promises 36 to 43 and 51 to 53. Each part's title tells the section or promise and what it says.
+ * section 5, and the promises 36 to 43 and 51 to 53. Each part's title tells the section or promise
+ * and what it says.
  */
 public final class ToldBoundaryTest {
     private static final int NULL = Bitmapstore.NULL;
