@@ -7,6 +7,7 @@ import java.nio.file.Files;
 import java.nio.file.Path;
 import java.util.Arrays;
 import java.util.List;
+import java.util.Map;
 import java.util.Set;
 import java.util.TreeSet;
 import java.util.regex.Pattern;
@@ -14,25 +15,39 @@ import java.util.stream.Collectors;
 
 /** The class has the document's face and no other one, and keeps to what LANGUAGE.md forbids. */
 public final class FaceTest {
+    /** Each method with the exceptions that it names, in their order. */
     private static final String[] FACE = {
-        "int addRow(int, int, int, int)", "int fill(int, int, int)", "int setValue(int, int, int)",
-        "int strike(int)", "int select(int, int, int, int, int)", "int between(int, int, int, int)",
-        "int compare(int, int, int, int)", "int combine(int, int, int)", "int contrary(int)",
-        "int copyOf(int, int)", "boolean put(int, int, boolean)", "int sample(int, int, int)",
-        "int partners(int, int, int, int, int)", "int runPlan(int)", "int unpack(int, int)",
-        "int pack(int, int)", "int combinePacked(int, int, int)", "int contraryPacked(int)",
-        "int addCondition(int, int, int)", "int dropCondition(int)", "int undo()", "int rows()",
-        "int nextRow(int)", "int valueAt(int, int)", "int values(int)",
-        "int outermost(int, boolean)", "int beside(int, int, boolean)", "int kept(int, int, int)",
-        "int count(int)", "int countIn(int, int, int)", "boolean has(int, int)",
-        "int next(int, int, boolean)", "int relation(int, int)", "int union(int, int, int)",
-        "int sum(int, int)", "int least(int, int, int)", "int middle(int, int)",
-        "int top(int, int, int)", "int unlike(int, int)", "int join(int, int, int, int)",
-        "int rollup(int, int)", "int groupAt(int, int)", "int runs(int)",
-        "int runAt(int, int, boolean)", "boolean hasPacked(int, int)", "int conditions()",
-        "int conditionAt(int, int)", "int cost(int, int)", "int planCost()",
-        "double mean(int, int)", "float share(int)", "int errors()",
+        "int addRow(int, int, int, int): Argument State", "int fill(int, int, int): Argument State",
+        "int setValue(int, int, int): Index Argument", "int strike(int): Index",
+        "int select(int, int, int, int, int): Index Argument",
+        "int between(int, int, int, int): Index Argument",
+        "int compare(int, int, int, int): Index Argument",
+        "int combine(int, int, int): Index Argument", "int contrary(int): Index",
+        "int copyOf(int, int): Index", "boolean put(int, int, boolean): Index",
+        "int sample(int, int, int): Index Argument", "int partners(int, int, int, int, int): Index",
+        "int runPlan(int): Index", "int unpack(int, int): Index", "int pack(int, int): Index",
+        "int combinePacked(int, int, int): Index Argument", "int contraryPacked(int): Index",
+        "int addCondition(int, int, int): Index Argument State", "int dropCondition(int): Index",
+        "int undo(): State", "int rows()", "int nextRow(int): Index",
+        "int valueAt(int, int): Index", "int values(int): Index",
+        "int outermost(int, boolean): Index Element", "int beside(int, int, boolean): Index",
+        "int kept(int, int, int): Index Argument", "int count(int): Index",
+        "int countIn(int, int, int): Index", "boolean has(int, int): Index",
+        "int next(int, int, boolean): Index", "int relation(int, int): Index",
+        "int union(int, int, int): Index", "int sum(int, int): Index",
+        "int least(int, int, int): Index", "int middle(int, int): Index",
+        "int top(int, int, int): Index", "int unlike(int, int): Index",
+        "int join(int, int, int, int): Index", "int rollup(int, int): Index Argument",
+        "int groupAt(int, int): Index Argument", "int runs(int): Index",
+        "int runAt(int, int, boolean): Index", "boolean hasPacked(int, int): Index",
+        "int conditions()", "int conditionAt(int, int): Index Argument",
+        "int cost(int, int): Index Argument", "int planCost()", "double mean(int, int): Index",
+        "float share(int): Index", "int errors()",
     };
+
+    private static final Map<String, String> SHORT_NAMES = Map.of(
+            "IndexOutOfBoundsException", "Index", "IllegalArgumentException", "Argument",
+            "IllegalStateException", "State", "NoSuchElementException", "Element");
 
     private static final String[] CONSTANTS = {
         "NONE", "NULL", "ALL", "VALUES", "BOUNDS", "DIGITS", "AND", "OR", "XOR", "AND_NOT",
@@ -50,17 +65,19 @@ public final class FaceTest {
     public static void main(String[] args) throws IOException {
         lookAtMembers();
         lookAtClassesInside();
-        String program = System.getProperty("program");
-        if (program != null) {
-            lookAtText(Files.readAllLines(Path.of(program)));
-        }
+        Path root = Path.of(System.getProperty("root", "."));
+        lookAtText(Files.readAllLines(root.resolve("src/main/java/Bitmapstore.java")));
         checks.finish();
     }
 
     private static String textOf(Method method) {
         String parameters = Arrays.stream(method.getParameterTypes()).map(Class::getName)
                 .collect(Collectors.joining(", "));
-        return method.getReturnType().getName() + " " + method.getName() + "(" + parameters + ")";
+        String exceptions = Arrays.stream(method.getExceptionTypes())
+                .map(type -> SHORT_NAMES.getOrDefault(type.getSimpleName(), type.getName()))
+                .collect(Collectors.joining(" "));
+        return method.getReturnType().getName() + " " + method.getName() + "(" + parameters + ")"
+                + (exceptions.isEmpty() ? "" : ": " + exceptions);
     }
 
     private static void lookAtMembers() {
@@ -71,6 +88,7 @@ public final class FaceTest {
             if (!Modifier.isPrivate(method.getModifiers())) {
                 open.add(textOf(method));
                 names.add(method.getName());
+                checks.dueText(method.getName(), Modifier.toString(method.getModifiers()), "public");
             }
         }
         checks.due("the methods are those of the face",
@@ -79,11 +97,15 @@ public final class FaceTest {
             boolean isHidden = Modifier.isPrivate(method.getModifiers());
             checks.due("a private method is named " + method.getName(),
                     isHidden && names.contains(method.getName()), false);
+            checks.due(method.getName() + " takes at most seven parameters",
+                    method.getParameterCount() <= 7, true);
         }
         Set<String> constants = new TreeSet<>();
         for (Field field : Bitmapstore.class.getDeclaredFields()) {
             if (!Modifier.isPrivate(field.getModifiers())) {
                 constants.add(field.getName());
+                checks.dueText(field.getName(), Modifier.toString(field.getModifiers()) + " "
+                        + field.getType(), "public static final int");
             }
         }
         checks.due("the constants are those of the face",
@@ -106,6 +128,10 @@ public final class FaceTest {
             long fields = Arrays.stream(type.getDeclaredFields())
                     .filter(field -> !Modifier.isStatic(field.getModifiers())).count();
             checks.due(type + " has at most twenty fields", fields <= 20, true);
+            for (Method method : type.getDeclaredMethods()) {
+                checks.due(method + " takes at most seven parameters",
+                        method.getParameterCount() <= 7, true);
+            }
             for (Field field : type.getDeclaredFields()) {
                 boolean isOpenState = Modifier.isStatic(field.getModifiers())
                         && !Modifier.isFinal(field.getModifiers());
